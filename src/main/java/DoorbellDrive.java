@@ -642,7 +642,7 @@ public final class DoorbellDrive {
         int answersTo;
 
         static boolean fits(long base, long size) {
-            return fitsInMemory(base, size, Command.LONGS);
+            return Ring.fitsInMemory(base, size, Command.LONGS);
         }
 
         void make(int newBase, int newSize, int completion) {
@@ -661,7 +661,7 @@ public final class DoorbellDrive {
         boolean interrupting;
 
         static boolean fits(long base, long size) {
-            return fitsInMemory(base, size, 1);
+            return Ring.fitsInMemory(base, size, 1);
         }
 
         void make(int newBase, int newSize, boolean withInterrupts) {

@@ -52,12 +52,6 @@ final class Host {
         heads[queue] = 0;
     }
 
-    /** Forgets what was told of a queue that has gone. */
-    void forget(int queue) {
-        tails[queue] = 0;
-        heads[queue] = 0;
-    }
-
     /** Writes a command and rings for it. */
     void place(int queue, Cmd cmd) {
         long[] longs = cmd.longs();
