@@ -1,11 +1,22 @@
 /** Terms: the bits of a command and of its answer. */
 public final class AnswerTest {
+    private static final int FREE = 512;
+
     public static void main(String[] args) {
-        everyBitOfAnAnswer();
-        onlyTheNamedBitsOfACommandCount();
-        headGoesRound();
-        answerGoesToItsCompletionQueue();
-        answerMayLieOverAnything();
+        bitsOfOp();
+        bitsOfId();
+        bitOfFlag();
+        bitsOfCount();
+        theOtherLongs();
+        idOfTheAnswer();
+        queueOfTheAnswer();
+        headOfTheAnswer();
+        statusOfTheAnswer();
+        phaseOfTheAnswer();
+        resultOfTheAnswer();
+        otherBitsOfTheAnswer();
+        whereItIsWritten();
+        itMayBeWrittenOverAnything();
         Check.end();
     }
 
@@ -13,82 +24,204 @@ public final class AnswerTest {
         return id | queue << 16 | head << 20 | status << 28 | phase << 36 | result << 40;
     }
 
-    private static void everyBitOfAnAnswer() {
+    private static void bitsOfOp() {
+        Check.sentence("A COMMAND: four longs; the first: OP, bits 0 to 7");
         Host host = Host.ready();
-        host.fill(512, 8, 1);
-        Check.due("write", host.send(1, Cmd.op(17).id(0xFFFF).p(512).x(1)),
-            answer(0xFFFF, 1, 1, 0, 1, 0));
-        Check.due("write", host.send(1, Cmd.op(17).id(0x8001).p(512).x(2)),
-            answer(0x8001, 1, 2, 0, 1, 0));
-        Check.due("how many are cached", host.send(0, Cmd.op(7).id(0x1234)),
-            answer(0x1234, 0, 3, 0, 1, 2));
-        Check.due("no such block", host.send(1, Cmd.op(18).id(1).x(64)),
-            answer(1, 1, 3, 3, 1, 0));
-        Check.due("caching: a wrong P", host.send(0, Cmd.op(5).id(9).p(2)),
-            answer(9, 0, 4, 2, 1, 0));
-        Check.due("caching off", host.send(0, Cmd.op(5).id(9).p(0)),
-            answer(9, 0, 5, 0, 1, 1));
+        for (int bit = 0; bit < 8; bit++) {
+            // op 7 with one bit turned: only 3, 5 and 6 are ops, and their fields are wrong
+            int op = 7 ^ 1 << bit;
+            int status = op == 6 ? 0 : op == 3 || op == 5 ? 2 : 1;
+            host.status("op " + op, 0, Cmd.op(op).p(500), status);
+        }
+        for (int bit = 8; bit < 64; bit++) {
+            if (bit % 2 == 0 || bit < 10) {
+                long answer = host.sendLongs(0, 7 | 1L << bit, 0, 0, 0);
+                Check.due("op 7 and bit " + bit, Host.statusOf(answer), 0);
+            }
+        }
+        Check.due("op 255", Host.statusOf(host.send(1, Cmd.op(255))), 1);
+        Check.due("op 16 + 256", Host.statusOf(host.sendLongs(1, 16 + 256, 0, 0, 0)), 0);
     }
 
-    private static void onlyTheNamedBitsOfACommandCount() {
-        DoorbellDrive drive = new DoorbellDrive();
-        drive.begin(0, 4, 256, 4);
-        long otherBits = ~(0xFFL | 0xFFFFL << 8);
-        drive.poke(0, otherBits | 7 | 3 << 8);
-        drive.poke(1, -1);
-        drive.poke(2, Long.MIN_VALUE);
-        drive.poke(3, -1);
-        drive.ring(0, 1);
-        Check.due("run(1)", drive.run(1), 1);
-        Check.due("peek(256)", drive.peek(256), answer(3, 0, 1, 0, 1, 0));
-        // bits 25 to 31 and 40 to 63 stand beside FLAG and COUNT
-        drive.poke(4, 1 | 4 << 8 | 0x7FL << 25 | 0xFFFFFFL << 40);
-        drive.poke(5, 1);
-        drive.poke(6, 272);
-        drive.poke(7, 4);
-        drive.poke(8, 2 | 5 << 8 | 0x7FL << 25 | 0xFFFFFFL << 40 | 1L << 32);
-        drive.poke(9, 1);
-        drive.poke(10, 64);
-        drive.poke(11, 4);
-        drive.ring(0, 3);
-        Check.due("run(9)", drive.run(9), 2);
-        Check.due("peek(257)", drive.peek(257), answer(4, 0, 2, 0, 1, 0));
-        Check.due("peek(258)", drive.peek(258), answer(5, 0, 3, 0, 1, 0));
-        drive.interrupts(-1);
-        drive.poke(64, 16);
-        drive.ring(1, 1);
-        Check.due("run(9)", drive.run(9), 1);
-        Check.due("interrupts(0): FLAG was 0", drive.interrupts(0), 0);
+    private static void bitsOfId() {
+        Check.sentence("ID, bits 8 to 23");
+        Host host = Host.begun();
+        for (int bit = 8; bit <= 23; bit++) {
+            long answer = host.sendLongs(0, 7 | 1L << bit, 0, 0, 0);
+            Check.due("ID by bit " + bit, answer & 0xFFFF, 1 << bit - 8);
+        }
+        for (int bit : new int[] {24, 25, 31, 32, 63}) {
+            long answer = host.sendLongs(0, 7 | 1L << bit, 0, 0, 0);
+            Check.due("ID by bit " + bit, answer & 0xFFFF, 0);
+        }
+        Check.due("ID by bit 7", host.sendLongs(0, 128, 0, 0, 0) & 0xFFFF, 0);
+        Check.due("ID by all", host.sendLongs(0, -1, 0, 0, 0) & 0xFFFF, 0xFFFF);
     }
 
-    private static void headGoesRound() {
-        DoorbellDrive drive = new DoorbellDrive();
-        drive.begin(1008, 3, 1020, 4);
-        for (int i = 0; i < 9; i++) {
-            drive.poke(1008 + i % 3 * 4, 7 | i << 8);
-            Check.due("ring", drive.ring(0, (i + 1) % 3), 1);
-            Check.due("run(1)", drive.run(1), 1);
-            Check.due("answer " + i, drive.peek(1020 + i % 4),
-                answer(i, 0, (i + 1) % 3, 0, i / 4 % 2 == 0 ? 1 : 0, 0));
-            Check.due("seen", drive.seen(0, (i + 1) % 4), 0);
+    private static void bitOfFlag() {
+        Check.sentence("FLAG, bit 24");
+        Host host = Host.ready();
+        for (int bit = 22; bit <= 31; bit++) {
+            long answer = host.sendLongs(1, 20 | 1L << bit, 0, 0, 5);
+            Check.due("bit " + bit, Host.statusOf(answer), 0);
+            // FLAG: the block is FLUSHED then
+            host.dueCount(0, bit == 24 ? 0 : 1);
+        }
+        host.status("flush", 1, Cmd.op(16), 0);
+        for (int bit : new int[] {40, 56, 63}) {
+            host.sendLongs(1, 20 | 1L << bit, 0, 0, 5);
+            host.dueCount(0, 1);
+        }
+        host.sendLongs(1, 20 | 0xFFFFL << 8 | 0xFEL << 24, 0, 0, 5);
+        host.dueCount(0, 1);
+        host.sendLongs(1, 20 | 0xFFFFL << 8 | 0xFFL << 24, 0, 0, 5);
+        host.dueCount(0, 0);
+    }
+
+    private static void bitsOfCount() {
+        Check.sentence("COUNT, bits 32 to 39, and 1 more: n");
+        Host host = Host.ready();
+        int stored = 0;
+        for (int bit = 30; bit <= 42; bit++) {
+            long count = bit >= 32 && bit <= 39 ? 1L << bit - 32 : 0;
+            boolean blocks = count + 1 <= 64;
+            long answer = host.sendLongs(1, 20 | 1L << bit, 0, 0, 0);
+            Check.due("COUNT by bit " + bit, Host.statusOf(answer), blocks ? 0 : 3);
+            stored += blocks ? (int) count + 1 : 0;
+            host.dueCount(5, stored);
+        }
+        host.status("n is 64", 1, Cmd.op(20).n(64), 0);
+        host.dueCount(5, stored + 64);
+        host.status("n is 65", 1, Cmd.op(20).n(65), 3);
+        host.status("n is 255", 1, Cmd.op(20).n(255).x(1), 3);
+        // were it 0, the last block would be the one before X
+        host.status("n is 256", 1, Cmd.op(20).n(256).x(1), 3);
+        host.dueCount(5, stored + 64);
+    }
+
+    private static void theOtherLongs() {
+        Check.sentence("the second and third P and Q; the fourth X");
+        Host host = Host.begun();
+        Check.due("completion queue 3 at 288 of 5",
+            Host.statusOf(host.sendLongs(0, 1, 3, 288, 5)), 0);
+        host.dueQueue(3, 8, 5);
+        Check.due("submission queue 2 at 300 of 7",
+            Host.statusOf(host.sendLongs(0, 2 | 3L << 32, 2, 300, 7)), 0);
+        host.dueQueue(2, 3, 7);
+        host.pokeAll(300, 16 | 9 << 8, 0, 0, 0);
+        Check.due("ring(2, 1)", host.drive.ring(2, 1), 1);
+        host.dueRun(9, 1);
+        host.dueLong(288, answer(9, 2, 1, 0, 1, 0));
+    }
+
+    private static void idOfTheAnswer() {
+        Check.sentence("ANSWER: a long: ID, bits 0 to 15");
+        Host host = Host.begun();
+        int head = 0;
+        for (int id : new int[] {0, 1, 0x7FFF, 0x8000, 0xFFFF}) {
+            head++;
+            Check.due("ID " + id, host.send(0, Cmd.op(7).id(id)), answer(id, 0, head, 0, 1, 0));
         }
     }
 
-    private static void answerGoesToItsCompletionQueue() {
-        Host host = Host.begun();
-        host.status("completion queue 3", 0, Cmd.makeCompletion(3, 304, 4).flag(), 0);
-        host.status("submission queue 1", 0, Cmd.makeSubmission(1, 64, 16, 3), 0);
-        host.status("submission queue 2", 0, Cmd.makeSubmission(2, 128, 16, 3), 0);
-        host.drive.interrupts(-1);
-        host.place(1, Cmd.op(16).id(11));
-        host.place(2, Cmd.op(16).id(22));
-        Check.due("run(9)", host.drive.run(9), 2);
-        Check.due("peek(304)", host.drive.peek(304), answer(11, 1, 1, 0, 1, 0));
-        Check.due("peek(305)", host.drive.peek(305), answer(22, 2, 1, 0, 1, 0));
-        Check.due("interrupts(0)", host.drive.interrupts(0), 8);
+    private static void queueOfTheAnswer() {
+        Check.sentence("the submission queue, bits 16 to 19");
+        Host host = Host.withAllQueues();
+        for (int q = 0; q <= 3; q++) {
+            int head = q == 0 ? 7 : 1;
+            Check.due("queue " + q, host.send(q, Cmd.op(q == 0 ? 7 : 16).id(0xFFFF)),
+                answer(0xFFFF, q, head, 0, 1, 0));
+        }
     }
 
-    private static void answerMayLieOverAnything() {
+    private static void headOfTheAnswer() {
+        Check.sentence("its head, behind the command, bits 20 to 27");
+        for (int size : new int[] {2, 3, 15, 16}) {
+            Host host = Host.begun(0, size, 256, 16);
+            for (int i = 1; i <= size + 1; i++) {
+                int phase = i <= 16 ? 1 : 0;
+                Check.due("answer " + i + " of " + size, host.send(0, Cmd.op(7)),
+                    answer(0, 0, i % size, 0, phase, 0));
+            }
+        }
+    }
+
+    private static void statusOfTheAnswer() {
+        Check.sentence("STATUS, bits 28 to 35");
+        Host host = Host.ready();
+        Cmd[] commands = {
+            Cmd.op(18).p(FREE), Cmd.op(15).p(FREE), null, Cmd.op(18).p(FREE).x(64),
+            Cmd.op(18).p(1024), Cmd.op(19).p(FREE + 1)
+        };
+        host.drive.poke(FREE + 8, 1);
+        int head = 0;
+        for (int status = 0; status <= 5; status++) {
+            if (status != 2) {
+                head++;
+                Check.due("status " + status, host.send(1, commands[status].id(0xFFFF)),
+                    answer(0xFFFF, 1, head, status, 1, 0));
+            }
+        }
+        Check.due("status 2", host.send(0, Cmd.op(5).p(2).id(1)), answer(1, 0, 3, 2, 1, 0));
+    }
+
+    private static void phaseOfTheAnswer() {
+        Check.sentence("the phase, bit 36");
+        Host host = Host.begun(0, 16, 256, 2);
+        for (int i = 1; i <= 6; i++) {
+            int phase = (i - 1) / 2 % 2 == 0 ? 1 : 0;
+            Check.due("answer " + i, host.send(0, Cmd.op(7)), answer(0, 0, i, 0, phase, 0));
+        }
+    }
+
+    private static void resultOfTheAnswer() {
+        Check.sentence("a RESULT, bits 40 to 62");
+        Host host = Host.ready();
+        for (int cached = 1; cached <= 6; cached++) {
+            host.status("zero", 1, Cmd.op(20).x(cached), 0);
+            Check.due(cached + " cached", host.send(0, Cmd.op(7).id(3)),
+                answer(3, 0, 2 + cached, 0, 1, cached));
+        }
+        Check.due("caching off", host.send(0, Cmd.op(5).p(0)), answer(0, 0, 9, 0, 1, 1));
+        Check.due("caching off", host.send(0, Cmd.op(5).p(0)), answer(0, 0, 10, 0, 1, 0));
+    }
+
+    private static void otherBitsOfTheAnswer() {
+        Check.sentence("others 0.");
+        Host host = Host.ready();
+        host.fill(Host.answers(1), 4, -1);
+        host.status("zero", 1, Cmd.op(20).n(4).x(3), 0);
+        // a RESULT is that of its own command: none is left from the one before
+        host.result("cached", Cmd.op(7), 4);
+        Check.due("all bits of the command", host.sendLongs(0, -1, -1, -1, -1),
+            answer(0xFFFF, 0, 4, 1, 1, 0));
+        Check.due("a wrong P", host.send(0, Cmd.op(5).p(-1)), answer(0, 0, 5, 2, 1, 0));
+        Check.due("read", host.send(1, Cmd.op(18).p(FREE).x(3)), answer(0, 1, 2, 0, 1, 0));
+        Check.due("not the same", host.send(1, Cmd.op(19).p(0).x(3)), answer(0, 1, 3, 5, 1, 0));
+        Check.due("make", host.send(0, Cmd.makeCompletion(2, 288, 4)), answer(0, 0, 6, 0, 1, 0));
+        Check.due("report", host.send(0, Cmd.op(6).p(FREE)), answer(0, 0, 7, 0, 1, 0));
+    }
+
+    private static void whereItIsWritten() {
+        Check.sentence("It is written at the completion queue's tail, which goes 1 on");
+        for (int size : new int[] {2, 5}) {
+            Host host = Host.begun(0, 4, FREE, size);
+            for (int i = 0; i < size + 1; i++) {
+                host.fill(FREE - 1, size + 2, -100);
+                host.dueQueue(0, 6, i % size);
+                host.place(0, Cmd.op(7).id(40 + i));
+                host.dueRun(1, 1);
+                host.dueQueue(0, 6, (i + 1) % size);
+                int at = FREE + i % size;
+                host.dueLong(at, answer(40 + i, 0, (i + 1) % 4, 0, i < size ? 1 : 0, 0));
+                host.dueLong(at - 1, -100 + i % size);
+                host.dueLong(at + 1, -100 + i % size + 2);
+                Check.due("seen", host.drive.seen(0, (i + 1) % size), 0);
+            }
+        }
+    }
+
+    private static void itMayBeWrittenOverAnything() {
         DoorbellDrive drive = new DoorbellDrive();
         // the answer to the first command becomes the first long of the second
         drive.begin(0, 4, 4, 4);
@@ -98,6 +231,6 @@ public final class AnswerTest {
         Check.due("run(9)", drive.run(9), 2);
         Check.due("peek(4)", drive.peek(4), answer(7, 0, 1, 0, 1, 0));
         // its op is 7, the ID of the first
-        Check.due("peek(5)", drive.peek(5), answer(1 << 12 & 0xFFFF, 0, 2, 0, 1, 0));
+        Check.due("peek(5)", drive.peek(5), answer(1 << 12, 0, 2, 0, 1, 0));
     }
 }

@@ -1,57 +1,55 @@
 /** Promise 9: interrupts, one bit of each completion queue. */
 public final class P09InterruptsTest {
     public static void main(String[] args) {
-        Host host = Host.begun();
-        due(host, 0, 0);
-        host.status("how many are cached", 0, Cmd.op(7), 0);
-        due(host, 0, 1);
-        due(host, 14, 1);
-        due(host, 1, 1);
-        due(host, 0, 0);
-        eachQueue(host);
-        statusDoesNotMatter(host);
-        bitStaysWhenItsQueueGoes();
+        bitsOfInterrupts();
+        everyMask();
+        bitsThatThereAreNot();
         Check.end();
     }
 
-    private static void due(Host host, int mask, int want) {
-        Check.due("interrupts(" + mask + ")", host.drive.interrupts(mask), want);
-    }
-
-    private static void eachQueue(Host host) {
+    /** All four bits are set. */
+    private static Host withAllBits() {
+        Host host = Host.withAllQueues();
         for (int q = 1; q <= 3; q++) {
-            Cmd completion = Cmd.makeCompletion(q, Host.answers(q), 16);
-            host.status("completion queue", 0, q == 2 ? completion : completion.flag(), 0);
-            host.status("submission queue", 0, Cmd.makeSubmission(q, Host.base(q), 16, q), 0);
+            host.place(q, Cmd.op(16));
         }
-        due(host, -1, 1);
-        host.status("flush by 2, without interrupts", 2, Cmd.op(16), 0);
-        due(host, 0, 0);
-        host.status("flush by 1", 1, Cmd.op(16), 0);
-        due(host, 0, 2);
-        host.status("flush by 3", 3, Cmd.op(16), 0);
-        due(host, 2, 10);
-        due(host, 0, 8);
-        due(host, Integer.MIN_VALUE, 8);
-        due(host, Integer.MAX_VALUE, 8);
-        due(host, 0, 0);
+        host.dueRun(9, 3);
+        return host;
     }
 
-    private static void statusDoesNotMatter(Host host) {
-        host.status("no such op", 1, Cmd.op(0), 1);
-        due(host, -1, 2);
-        host.status("no such op", 2, Cmd.op(0), 1);
-        due(host, -1, 0);
+    private static void bitsOfInterrupts() {
+        Check.sentence("The bits of INTERRUPTS; those of mask are 0 then.");
+        Host host = Host.begun();
+        host.dueInterrupts(0, 0);
+        host.dueInterrupts(-1, 0);
+        host.status("how many are cached", 0, Cmd.op(7), 0);
+        host.dueInterrupts(0, 1);
+        host.dueInterrupts(14, 1);
+        host.dueInterrupts(1, 1);
+        host.dueInterrupts(0, 0);
+        host.status("set again", 0, Cmd.op(7), 0);
+        host.status("and again", 0, Cmd.op(7), 0);
+        host.dueInterrupts(1, 1);
+        host.dueInterrupts(1, 0);
     }
 
-    private static void bitStaysWhenItsQueueGoes() {
-        Host host = Host.ready();
-        host.status("flush", 1, Cmd.op(16), 0);
-        host.status("submission queue 1 goes", 0, Cmd.op(4).p(1), 0);
-        host.status("completion queue 1 goes", 0, Cmd.op(3).p(1), 0);
-        due(host, 1, 3);
-        due(host, 0, 2);
-        host.status("completion queue 1 again", 0, Cmd.makeCompletion(1, 272, 4), 0);
-        due(host, 0, 3);
+    private static void everyMask() {
+        for (int mask = 0; mask <= 15; mask++) {
+            Host host = withAllBits();
+            host.dueInterrupts(mask, 15);
+            host.dueInterrupts(0, 15 & ~mask);
+            host.dueInterrupts(15, 15 & ~mask);
+            host.dueInterrupts(0, 0);
+        }
+    }
+
+    private static void bitsThatThereAreNot() {
+        Host host = withAllBits();
+        for (int mask : new int[] {16, 32, 240, 1 << 30, Integer.MIN_VALUE, ~15}) {
+            host.dueInterrupts(mask, 15);
+        }
+        host.dueInterrupts(Integer.MAX_VALUE - 8, 15);
+        host.dueInterrupts(Integer.MIN_VALUE | 8, 8);
+        host.dueInterrupts(-1, 0);
     }
 }
