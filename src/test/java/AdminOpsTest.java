@@ -353,6 +353,8 @@ public final class AdminOpsTest {
             + "how many with others, how many blocks were read (by 18), "
             + "how many stored (by 17, 20, 21), and 0s");
         Host host = Host.ready();
+        // no long is 0, so that nothing of what moved before may be left in a report
+        host.fill(FREE, 32, 70);
         dueReport(host, 2, 0, 0, 0);
         host.status("write 3", 1, Cmd.op(17).n(3).p(FREE).q(528).x(0), 0);
         host.status("no such op", 1, Cmd.op(1), 1);
@@ -361,16 +363,17 @@ public final class AdminOpsTest {
         host.status("compare 2", 1, Cmd.op(19).n(2).p(FREE).x(0), 0);
         host.status("zero 5", 1, Cmd.op(20).n(5).x(0), 0);
         dueReport(host, 8, 1, 2, 8);
-        host.status("compare and write 1", 1, Cmd.op(21).p(FREE).q(FREE).x(0), 0);
+        host.status("compare and write 1", 1, Cmd.op(21).p(544).q(FREE).x(0), 0);
+        dueReport(host, 10, 1, 2, 9);
         host.drive.poke(FREE, 1);
         host.status("not the same", 1, Cmd.op(21).p(FREE).q(FREE).x(0), 5);
         host.status("not the same", 1, Cmd.op(19).p(FREE).x(0), 5);
         host.status("no such block", 1, Cmd.op(18).p(FREE).x(64), 3);
         host.status("no such page", 1, Cmd.op(17).p(-1).x(0), 4);
-        dueReport(host, 10, 5, 2, 9);
+        dueReport(host, 11, 5, 2, 9);
         host.drive.stop(true);
         host.begin();
-        dueReport(host, 11, 5, 2, 9);
+        dueReport(host, 12, 5, 2, 9);
     }
 
     private static void reportedBefore() {
