@@ -122,6 +122,8 @@ public final class BlockOpsTest {
             host.dueLong(640 + i, 0);
         }
         host.dueCount(4, 4);
+        host.status("FLAG does not flush", 1, Cmd.op(18).flag().p(640).x(20), 0);
+        host.dueCount(0, 2);
     }
 
     private static void readFromCacheAndMedium() {

@@ -129,10 +129,16 @@ public final class CacheTest {
         host.status("read the first", 1, Cmd.op(18).p(640).x(50), 0);
         host.status("compare the first", 1, Cmd.op(19).p(640).x(50), 0);
         host.status("read what is not there", 1, Cmd.op(18).p(656).x(1), 0);
+        host.status("compare what is not there", 1, Cmd.op(19).p(656).x(1), 0);
         host.dueCount(0, 6);
+        host.dueFirstLong(50, 0, 100);
         store(host, 1, 1);
         host.dueFirstLong(50, 100, 100);
         host.dueFirstLong(49, 0, 101);
+        Host few = withCached(2);
+        few.status("read what is not there", 1, Cmd.op(18).p(656).x(1), 0);
+        few.status("read what is there", 1, Cmd.op(18).p(656).x(50), 0);
+        few.dueCount(0, 2);
     }
 
     private static void aBlockKeepsItsPlace() {

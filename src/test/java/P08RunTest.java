@@ -7,6 +7,7 @@ public final class P08RunTest {
         fromTheQueueBehindTheLatest();
         roundFromEachQueue();
         turnStaysThroughOtherCalls();
+        turnGoesOnWhateverTheStatus();
         onlyQueuesWithCommands();
         fullOnesAreLeftOut();
         fullOneBehindItsOwnAnswer();
@@ -121,11 +122,22 @@ public final class P08RunTest {
         dueNext(host, 3);
         host.dueRun(-1, DoorbellDrive.REFUSED);
         dueNext(host, 0);
-        // a command that is refused by its status is the latest one as well
-        host.place(1, Cmd.op(99));
-        dueNext(host, 1);
-        dueNext(host, 2);
-        dueNext(host, 1);
+    }
+
+    /** A command whose status is another than 0 is the latest one as well. */
+    private static void turnGoesOnWhateverTheStatus() {
+        for (int wrong = 0; wrong <= 3; wrong++) {
+            Host host = Host.withAllQueues();
+            host.place(wrong, Cmd.op(99));
+            host.dueRun(1, 1);
+            host.dueCount(3, 1);
+            for (int q = 0; q <= 3; q++) {
+                placeAny(host, q);
+            }
+            for (int further = 1; further <= 4; further++) {
+                dueNext(host, (wrong + further) % 4);
+            }
+        }
     }
 
     private static void onlyQueuesWithCommands() {
