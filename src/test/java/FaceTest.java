@@ -55,6 +55,7 @@ public final class FaceTest {
     private static void methods(Class<?> face) {
         Set<String> found = new TreeSet<>();
         for (Method method : face.getDeclaredMethods()) {
+            fewParameters(method);
             if (Modifier.isPrivate(method.getModifiers())) {
                 Check.so(method + " bears a name of its own", !NAMES.contains(method.getName()));
             } else {
@@ -97,7 +98,19 @@ public final class FaceTest {
                 own += Modifier.isStatic(field.getModifiers()) ? 0 : 1;
             }
             Check.so(one + " has at most twenty fields", own <= 20);
+            nestedMethods(one);
         }
+    }
+
+    private static void nestedMethods(Class<?> nested) {
+        for (Method method : nested.getDeclaredMethods()) {
+            Check.so(method + " bears a name of its own", !NAMES.contains(method.getName()));
+            fewParameters(method);
+        }
+    }
+
+    private static void fewParameters(Method method) {
+        Check.so(method + " takes at most seven parameters", method.getParameterCount() <= 7);
     }
 
     private static void source() throws IOException {
